@@ -433,7 +433,7 @@ public final class ChoiceCode {
 
         int unlikeTargets(int first, int last) {
             int seen = 0;
-            for (int i = first; i <= last; i++) {
+            for (int i = first; i <= last && i < MOST_CASES; i++) {
                 seen |= 1 << target(i);
             }
             return Integer.bitCount(seen);
@@ -441,7 +441,7 @@ public final class ChoiceCode {
 
         long intsIn(int first, int last) {
             long sum = 0L;
-            for (int i = first; i <= last; i++) {
+            for (int i = first; i <= last && i < MOST_CASES; i++) {
                 sum += (long) high(i) - low(i) + 1L;
             }
             return sum;
@@ -449,7 +449,7 @@ public final class ChoiceCode {
 
         int weightOf(int first, int last) {
             int sum = 0;
-            for (int i = first; i <= last; i++) {
+            for (int i = first; i <= last && i < MOST_CASES; i++) {
                 sum += weight(i);
             }
             return sum;
@@ -740,9 +740,9 @@ public final class ChoiceCode {
             }
         }
 
-        /** Ints from least to greatest can come here; the depth is below that of a row of questions. */
+        /** Ints from least to greatest can come here; the depth is how many questions lie above. */
         private void layPart(int i, int j, int least, int greatest, int depth) {
-            if (depth > MOST_CASES) {
+            if (depth >= MOST_CASES) {
                 return;
             }
             if (i >= j) {
@@ -786,7 +786,7 @@ public final class ChoiceCode {
             int first = clusters.firstRun(c);
             int last = clusters.lastRun(c);
             int seen = 0;
-            for (int r = first; r <= last; r++) {
+            for (int r = first; r <= last && r < MOST_CASES; r++) {
                 int t = runs.target(r);
                 if ((seen & 1 << t) == 0) {
                     seen |= 1 << t;
@@ -804,7 +804,7 @@ public final class ChoiceCode {
             }
             used += many;
             fill(start, used - 1, restTarget);
-            for (int r = clusters.firstRun(c); r <= clusters.lastRun(c); r++) {
+            for (int r = clusters.firstRun(c); r <= clusters.lastRun(c) && r < MOST_CASES; r++) {
                 fill(start + (runs.low(r) - bottom), start + (runs.high(r) - bottom), runs.target(r));
             }
         }

@@ -41,6 +41,7 @@ public final class PromisesTest {
         rest();
         tables();
         way();
+        steepWay();
         told();
         count();
         run();
@@ -85,6 +86,9 @@ public final class PromisesTest {
         due("rest's target", x.rest(0, 0), 0);
         due("density", x.tables(40, 64), 40);
         due("way", x.way(0), 0);
+        // Four unlike targets are no bits: a table of 64 ints at first, of 65 not.
+        due("size 64", with(0, 9, 1, 1, 20, 29, 2, 1, 40, 49, 3, 1, 63, 63, 4, 1).count(2), 1);
+        due("not 65", with(0, 9, 1, 1, 20, 29, 2, 1, 40, 49, 3, 1, 64, 64, 4, 1).count(2), 2);
         ChoiceCode y = new ChoiceCode();
         x.add(1, 2, 3, 4);
         x.print();
@@ -124,6 +128,12 @@ public final class PromisesTest {
         due("count(0)", x.count(0), 24);
         x.drop(23);
         due("free again", x.add(90, 90, 1, 1), 23);
+        ChoiceCode asked = new ChoiceCode();
+        due("go(7) before", asked.go(7), 0);
+        asked.add(7, 7, 3, 1);
+        due("go(7) behind", asked.go(7), 3);
+        asked.add(7, 8, 4, 1);
+        due("go(8) behind a refused one", asked.go(8), 0);
         ChoiceCode all = with(MIN, MAX, 1, 1);
         due("all are taken", all.add(7, 7, 2, 2), STATE);
     }
@@ -242,6 +252,27 @@ public final class PromisesTest {
         due("its second part", five.line(1, 1), 3000);
         due("first of all", five.cluster(0, 4), 2);
         due("last of all", five.cluster(4, 4), 3);
+    }
+
+    /** Weights that grow like these bring the deepest tree: each question parts one cluster off. */
+    private static void steepWay() {
+        promise = "7 way, steep";
+        int[] weights = {0, 1, 3, 7, 15, 31, 63, 127, 255, 511, 1000};
+        for (int turned = 0; turned <= 1; turned++) {
+            ChoiceCode x = new ChoiceCode();
+            int n = weights.length;
+            for (int k = 0; k < n; k++) {
+                x.add(k * 1000, k * 1000 + 1, 1 + k, weights[turned == 0 ? k : n - 1 - k]);
+            }
+            x.way(1);
+            long cost = 0;
+            for (int k = 0; k < n; k++) {
+                int above = Math.min(n - 1, n - k);
+                due("above " + k, x.cluster(turned == 0 ? k : n - 1 - k, 4), above);
+                cost += (weights[k] + 1L) * above;
+            }
+            due("cost()", x.cost(), cost);
+        }
     }
 
     private static void told() {
@@ -610,6 +641,9 @@ public final class PromisesTest {
         ChoiceCode z = with(-10, -9, 9, 1, 3, 40, 15, 1, 50, 53, 9, 1);
         dueText("figures", z, "0 LESS -10 4\n1 MORE 53 4\n2 BIT -10 F000000000000003 9\n"
             + "3 BIT -10 0007FFFFFFFFE000 15\n4 END 0\n");
+        dueText("all figures", with(0, 0, 1, 1, 4, 4, 2, 1, 9, 9, 2, 1, 11, 11, 2, 1, 18, 18, 1, 1, 12, 15, 3, 1, 20, 23, 3, 1),
+            "0 LESS 0 5\n1 MORE 23 5\n2 BIT 0 0000000000040001 1\n3 BIT 0 0000000000000A10 2\n"
+            + "4 BIT 0 0000000000F0F000 3\n5 END 0\n");
         ChoiceCode full = new ChoiceCode();
         full.tables(1, 256);
         for (int k = 0; k < 12; k++) {
